@@ -1,0 +1,568 @@
+/** Promises 10, 11 and 13 to 17: RUNS whose MESSAGES all come, told one by one. */
+public final class RunTest {
+    private static final int BAD = Told.BAD, NO = Told.NO;
+    private static final int[] FAR = {Integer.MIN_VALUE, -1, Integer.MAX_VALUE};
+    /** What is sent till one file alone is TO DO: seven times ASK and NODE. */
+    private static final String ASKED = "01010101010101";
+    private static final int ASKED_STEPS = 14;
+    private static final Check check = new Check("RunTest");
+
+    private RunTest() {
+    }
+
+    public static void main(String[] args) {
+        beginRefuses();
+        beginMakesTheStateAnew();
+        stepCounts();
+        nodesAreAskedInOrder();
+        nodesAreComparedAsTheyAreThen();
+        filesAreDoneInOrder();
+        bytesGoBySixteen();
+        looksStopBytes();
+        noLookBehindTheSixteenth();
+        theFirstBlockIsFound();
+        falseMeets();
+        aStrongThatMeetsWronglyCostsATry();
+        threeTriesLeaveAFile();
+        goneByRules();
+        goneIsLookedAtOnlyBehindSums();
+        aFileThatBecomesNoneCountsAsEmpty();
+        blocksAreTakenAsTheyAreThen();
+        builtIsKeptTillTheNextSums();
+        cutEndsARun();
+        stateRefuses();
+        sentAddsUp();
+        sumsAreTheLatest();
+        strongHasSignByEight();
+        check.finish();
+    }
+
+    /** Steps, one by one, till the RUN goes no more: the kind of the MESSAGE of each. */
+    private static String kinds(RollingSync x) {
+        StringBuilder kinds = new StringBuilder();
+        while (x.step(1) == 1) {
+            kinds.append(x.state(14));
+        }
+        return kinds.toString();
+    }
+
+    private static void goesOn(String what, RollingSync x, String want) {
+        int before = x.state(1);
+        String got = kinds(x);
+        check.holds(what + ": kinds " + got + " are " + want, got.equals(want));
+        check.due(what + ": the RUN is OVER", x.state(0), 2);
+        check.due(what + ": a STEP for each MESSAGE", x.state(1), before + want.length());
+    }
+
+    private static void states(String what, RollingSync x, int... pairs) {
+        for (int i = 0; i < pairs.length; i += 2) {
+            check.due(what + ": state(" + pairs[i] + ")", x.state(pairs[i]), pairs[i + 1]);
+        }
+    }
+
+    private static void beginRefuses() {
+        RollingSync x = new RollingSync();
+        check.due("source 2", x.begin(2, 1, 1, 0), BAD);
+        check.due("block 0", x.begin(0, 0, 1, 0), BAD);
+        check.due("block 65", x.begin(0, 65, 1, 0), BAD);
+        check.due("k 0", x.begin(0, 1, 0, 0), BAD);
+        check.due("k 9", x.begin(0, 1, 9, 0), BAD);
+        check.due("rule 3", x.begin(0, 1, 1, 3), BAD);
+        for (int far : FAR) {
+            check.due("source " + far, x.begin(far, 1, 1, 0), BAD);
+            check.due("block " + far, x.begin(0, far, 1, 0), BAD);
+            check.due("k " + far, x.begin(0, 1, far, 0), BAD);
+            check.due("rule " + far, x.begin(0, 1, 1, far), BAD);
+        }
+        check.due("there is no RUN still", x.state(0), 0);
+        check.due("the least", x.begin(0, 1, 1, 0), 1);
+        check.due("while one GOES", x.begin(0, 1, 1, 0), NO);
+        check.due("BAD is before NO", x.begin(0, 1, 1, 3), BAD);
+        x.step(1);
+        check.due("while it GOES still", x.begin(1, 1, 1, 0), NO);
+        check.due("NO changes nothing", x.state(1), 1);
+        x.step(1);
+        check.due("the largest, when it is OVER", x.begin(1, 64, 8, 2), 1);
+        x.cut();
+        check.due("when it is CUT", x.begin(0, 64, 8, 2), 1);
+    }
+
+    private static void beginMakesTheStateAnew() {
+        RollingSync x = new RollingSync();
+        Told.put(x, 0, 0, Told.count(0, 40));
+        Told.put(x, 1, 0, Told.count(8, 24));
+        x.begin(0, 8, 1, 0);
+        x.step(ASKED_STEPS + 3);
+        check.holds("there is something to forget", x.state(13) > 0 && x.state(10) > 0);
+        x.cut();
+        x.begin(0, 8, 1, 0);
+        for (int what = 0; what < 16; what++) {
+            int want = what == 0 || what == 15 ? 1 : what == 14 ? NO : 0;
+            check.due("begun: state(" + what + ")", x.state(what), want);
+        }
+        check.due("begun: built", x.built(0), BAD);
+    }
+
+    private static void stepCounts() {
+        RollingSync x = new RollingSync();
+        check.due("no RUN", x.step(1), NO);
+        check.due("BAD is before NO", x.step(0), BAD);
+        x.begin(0, 1, 1, 0);
+        check.due("n 0", x.step(0), BAD);
+        check.due("n 201", x.step(201), BAD);
+        for (int far : FAR) {
+            check.due("n " + far, x.step(far), BAD);
+        }
+        check.due("BAD changes nothing", x.state(1), 0);
+        check.due("one", x.step(1), 1);
+        check.due("till it is OVER", x.step(200), 1);
+        check.due("OVER", x.step(1), NO);
+
+        Told.put(x, 0, 0, 1, 2);
+        x.again(0, 0, 0, 498);
+        Told.put(x, 1, 0, 1, 2);
+        x.begin(0, 2, 1, 0);
+        check.due("200 of 267", x.step(200), 200);
+        check.due("the RUN GOES", x.state(0), 1);
+        check.due("and the rest", x.step(200), ASKED_STEPS + 1 + 250 + 2 - 200);
+    }
+
+    private static void nodesAreAskedInOrder() {
+        RollingSync x = new RollingSync();
+        check.due("alike", x.begin(1, 4, 4, 0), 1);
+        states("nothing asked", x, 15, 1, 14, NO);
+        goesOn("alike", x, "01");
+
+        Told.put(x, 0, 0, 1);
+        Told.put(x, 0, 7, 1);
+        x.begin(0, 4, 4, 0);
+        // NODES 1, 2, 4, 8, 9, 5, 3, 6, 7, 14, 15; behind each pair how many wait
+        int[] waits = {2, 3, 4, 3, 2, 1, 2, 1, 2, 1, 0};
+        int[] toDo = {0, 0, 0, 1, 1, 1, 1, 1, 1, 1, 2};
+        for (int i = 0; i < waits.length; i++) {
+            x.step(1);
+            states("ask " + i, x, 14, 0, 15, i == 0 ? 0 : waits[i - 1] - 1);
+            x.step(1);
+            states("node " + i, x, 14, 1, 15, waits[i], 4, toDo[i]);
+        }
+        check.due("a NODE, then ASKs", x.sent(1), 10 + 2 * 11);
+        check.due("an ASK, then NODES", x.sent(0), 2 + 10 * 11);
+        goesOn("one byte each", x, "24672467");
+    }
+
+    private static void nodesAreComparedAsTheyAreThen() {
+        RollingSync x = new RollingSync();
+        Told.put(x, 0, 3, 1);
+        x.begin(0, 4, 4, 0);
+        x.step(1);
+        x.drop(0, 3);
+        goesOn("the NODE is made when it is sent", x, "1");
+        Told.put(x, 0, 3, 1);
+        x.begin(0, 4, 4, 0);
+        x.step(ASKED_STEPS);
+        states("to do", x, 4, 1);
+        x.same(1, 3);
+        goesOn("TO DO though alike by now", x, "2467");
+        states("done", x, 4, 0, 5, 1);
+    }
+
+    private static void filesAreDoneInOrder() {
+        RollingSync x = new RollingSync();
+        int[] order = {5, 1, 6};
+        for (int file : order) {
+            Told.put(x, 1, file, 1, 2, 3);
+        }
+        x.begin(1, 4, 4, 0);
+        while (x.state(5) < 1) {
+            x.step(1);
+        }
+        check.holds("the least first", Told.alike(x, 1) && !Told.alike(x, 5) && !Told.alike(x, 6));
+        states("one done", x, 4, 2, 15, 0);
+        while (x.state(5) < 2) {
+            x.step(1);
+        }
+        check.holds("then the next", Told.alike(x, 5) && !Told.alike(x, 6));
+        x.step(200);
+        check.due("all alike", x.node(0, 1), x.node(1, 1));
+        states("all done", x, 0, 2, 4, 0, 5, 3, 6, 0, 7, 0);
+    }
+
+    private static void bytesGoBySixteen() {
+        RollingSync x = new RollingSync();
+        Told.put(x, 0, 2, Told.count(0, 33));
+        x.begin(0, 4, 3, 0);
+        x.step(ASKED_STEPS + 1);
+        check.due("SUMS of none", x.sent(1), 2 * 7 + 6);
+        states("SUMS", x, 12, 3, 14, 2);
+        x.step(1);
+        states("16 bytes", x, 9, 16, 13, 16, 14, 4);
+        check.due("their size", x.sent(0), 70 + 18);
+        x.step(2);
+        states("33 bytes", x, 9, 33, 13, 33, 14, 4);
+        check.due("all of their sizes", x.sent(0), 70 + 18 + 18 + 3);
+        check.due("built", x.built(32), 32);
+        check.due("built no more", x.built(33), BAD);
+        check.due("not in place yet", x.size(1, 2), NO);
+        goesOn("END and ANSWER", x, "67");
+        check.holds("in place", Told.has(x, 1, 2, Told.count(0, 33)));
+        states("all", x, 8, 0, 10, 0, 13, 0);
+        check.due("END's size", x.sent(0), 70 + 18 + 18 + 3 + 11);
+        check.due("ANSWER's size", x.sent(1), 2 * 7 + 6 + 1);
+
+        RollingSync y = new RollingSync();
+        Told.put(y, 0, 1, Told.count(0, 32));
+        y.begin(0, 4, 3, 0);
+        goesOn("two times 16", y, ASKED + "24467");
+        RollingSync z = new RollingSync();
+        Told.put(z, 0, 1);
+        z.begin(0, 4, 3, 0);
+        goesOn("an empty file", z, ASKED + "267");
+        check.due("an empty file is in place", z.size(1, 1), 0);
+    }
+
+    private static void looksStopBytes() {
+        RollingSync x = new RollingSync();
+        Told.put(x, 0, 4, Told.bytes("xyzABCDpABCDEFGHq"));
+        Told.put(x, 1, 4, Told.bytes("ABCDEFGH123"));
+        x.begin(0, 4, 1, 0);
+        x.step(ASKED_STEPS + 1);
+        check.due("SUMS of two blocks", x.sent(1), 2 * 7 + 6 + 2 * 5);
+        x.step(1);
+        states("xyz, stopped by a MEET", x, 14, 4, 9, 3, 10, 1);
+        x.step(1);
+        states("its block, by a MEET of its own", x, 14, 5, 8, 1, 10, 2, 13, 7);
+        check.due("sizes", x.sent(0), 70 + 5 + 4);
+        check.due("built", x.built(3), 'A');
+        x.step(1);
+        states("p", x, 14, 4, 9, 4, 10, 3);
+        x.step(2);
+        states("two blocks", x, 14, 5, 8, 3, 10, 5, 13, 16);
+        goesOn("q", x, "467");
+        states("all", x, 5, 1, 9, 5, 10, 5, 11, 0);
+        check.holds("in place", Told.has(x, 1, 4, Told.bytes("xyzABCDpABCDEFGHq")));
+    }
+
+    private static void noLookBehindTheSixteenth() {
+        RollingSync x = new RollingSync();
+        Told.put(x, 0, 4, Told.bytes("0123456789abcdefABCD"));
+        Told.put(x, 1, 4, Told.bytes("ABCD"));
+        x.begin(0, 4, 1, 0);
+        x.step(ASKED_STEPS + 2);
+        states("16, and no LOOK", x, 9, 16, 10, 0);
+        x.step(1);
+        states("a LOOK for the next MESSAGE", x, 8, 1, 10, 1, 14, 5);
+        goesOn("all", x, "67");
+
+        RollingSync y = new RollingSync();
+        Told.put(y, 0, 4, Told.bytes("0123456789abcdeABCD"));
+        Told.put(y, 1, 4, Told.bytes("ABCD"));
+        y.begin(0, 4, 1, 0);
+        y.step(ASKED_STEPS + 2);
+        states("15, and a LOOK", y, 9, 15, 10, 1);
+        goesOn("all", y, "567");
+        states("all", y, 10, 2);
+    }
+
+    private static void theFirstBlockIsFound() {
+        RollingSync x = new RollingSync();
+        Told.put(x, 0, 4, Told.bytes("ABCD"));
+        Told.put(x, 1, 4, Told.bytes("????ABCDABCD"));
+        x.begin(0, 4, 1, 0);
+        x.step(ASKED_STEPS + 1);
+        // the first of the two is no longer what its sums told, which shows that it is the one
+        x.write(1, 4, 4, 'Z', 1);
+        x.step(1);
+        check.due("block 1, as it is by now", x.built(0), 'Z');
+        x.cut();
+
+        // 1 3 1 and 2 1 2 have one WEAK: the first with the STRONG, too, is the second
+        RollingSync y = new RollingSync();
+        Told.put(y, 0, 4, 2, 1, 2);
+        Told.put(y, 1, 4, 1, 3, 1, 2, 1, 2);
+        y.begin(0, 3, 1, 0);
+        goesOn("one block", y, ASKED + "2567");
+        states("one MEET that is not FALSE", y, 5, 1, 8, 1, 10, 1, 11, 0);
+    }
+
+    private static void falseMeets() {
+        check.due("one WEAK", Told.weak(1, 3, 1), Told.weak(2, 1, 2));
+        check.holds("two STRONGs", Told.strong(1, 1, 3, 1) != Told.strong(1, 2, 1, 2));
+        RollingSync x = new RollingSync();
+        Told.put(x, 0, 4, 9, 1, 3, 1, 9);
+        Told.put(x, 1, 4, 2, 1, 2);
+        x.begin(0, 3, 1, 0);
+        goesOn("FALSE", x, ASKED + "2467");
+        states("FALSE", x, 5, 1, 8, 0, 9, 5, 10, 1, 11, 1);
+    }
+
+    private static void aStrongThatMeetsWronglyCostsATry() {
+        int[][] pair = {{3, 4, 0}, {4, 2, 1}};
+        check.due("one WEAK", Told.weak(pair[0]), Told.weak(pair[1]));
+        check.due("one STRONG by 1", Told.strong(1, pair[0]), Told.strong(1, pair[1]));
+        check.holds("not by 2", Told.strong(2, pair[0]) != Told.strong(2, pair[1]));
+        RollingSync x = new RollingSync();
+        Told.put(x, 0, 6, pair[0]);
+        Told.put(x, 1, 6, pair[1]);
+        x.begin(0, 3, 1, 0);
+        x.step(ASKED_STEPS + 3);
+        states("a TRY was over", x, 4, 1, 5, 0, 7, 1, 8, 1, 12, 1, 14, 6);
+        check.holds("nothing is put in place", Told.has(x, 1, 6, pair[1]));
+        x.step(1);
+        states("the ANSWER", x, 14, 7, 12, 1);
+        x.step(1);
+        states("SUMS by 2", x, 14, 2, 12, 2, 13, 0);
+        check.due("STRONG by 2", x.sums(0, 1), Told.strong(2, pair[1]));
+        goesOn("the bytes", x, "467");
+        states("done by the second", x, 4, 0, 5, 1, 6, 0, 7, 1, 10, 2, 11, 1);
+        check.holds("in place", Told.has(x, 1, 6, pair[0]));
+        check.due("sizes of two SUMS", x.sent(1), 14 + 11 + 1 + 12 + 1);
+    }
+
+    private static void threeTriesLeaveAFile() {
+        RollingSync x = new RollingSync();
+        Told.put(x, 0, 0, Told.count(0, 20));
+        Told.put(x, 0, 1, 5);
+        x.begin(0, 8, 3, 0);
+        x.step(ASKED_STEPS);
+        int[] ks = {3, 6, 8};
+        for (int i = 0; i < 3; i++) {
+            x.step(2);
+            states("SUMS and BYTES", x, 6, 0, 7, i, 12, ks[i], 14, 4);
+            x.write(0, 0, 0, 100 + i, 1);
+            x.step(3);
+            states("a TRY was over", x, 5, 0, 7, i + 1, 14, 7);
+        }
+        check.due("LEFT", x.state(6), 1);
+        check.due("not TO DO any more", x.state(4), 1);
+        check.due("nothing is in place", x.size(1, 0), NO);
+        x.step(1);
+        states("the next file by the first k", x, 12, 3, 14, 2);
+        goesOn("which is DONE", x, "467");
+        states("all", x, 4, 0, 5, 1, 6, 1, 7, 3);
+    }
+
+    private static RollingSync withTwoGone(int rule) {
+        RollingSync x = new RollingSync();
+        Told.put(x, 1, 6, 1, 2, 3);
+        Told.put(x, 1, 7, 4);
+        x.begin(0, 2, 1, rule);
+        x.step(ASKED_STEPS + 2);
+        states("rule " + rule + ": GONE", x, 14, 3, 4, 1, 5, 0);
+        check.due("its size", x.sent(0), 71);
+        return x;
+    }
+
+    private static void goneByRules() {
+        RollingSync x = withTwoGone(0);
+        check.due("RULE 0: it stays", x.size(1, 6), 3);
+        goesOn("RULE 0", x, "23");
+        check.due("RULE 0: it stays", x.size(1, 6), 3);
+        states("RULE 0", x, 4, 0, 5, 0, 6, 0);
+
+        x = withTwoGone(1);
+        check.due("RULE 1: it is none", x.size(1, 6), NO);
+        check.due("RULE 1: not the other yet", x.size(1, 7), 1);
+        goesOn("RULE 1", x, "23");
+        check.due("RULE 1: the other, too", x.size(1, 7), NO);
+
+        x = withTwoGone(2);
+        check.due("RULE 2: it is there still", x.size(1, 6), 3);
+        x.write(1, 6, 0, 8, 1);
+        x.step(1);
+        check.due("RULE 2: it is there still", x.size(1, 6), 3);
+        goesOn("RULE 2", x, "3");
+        check.due("RULE 2: it is none, changed as it is", x.size(1, 6), NO);
+        check.due("RULE 2: the other, too", x.size(1, 7), NO);
+
+        x = withTwoGone(2);
+        x.cut();
+        check.due("RULE 2, CUT: it is there", x.size(1, 6), 3);
+        x.begin(1, 2, 1, 2);
+        x.step(200);
+        check.due("RULE 2, CUT: the next RUN knows nothing of it", x.size(0, 6), 3);
+    }
+
+    private static void goneIsLookedAtOnlyBehindSums() {
+        RollingSync x = new RollingSync();
+        Told.put(x, 0, 6, Told.count(0, 20));
+        x.begin(0, 2, 1, 1);
+        x.step(ASKED_STEPS + 1);
+        x.drop(0, 6);
+        x.step(1);
+        states("none when it is made", x, 14, 3, 0, 2);
+
+        Told.put(x, 1, 6, 1);
+        x.begin(0, 2, 1, 1);
+        x.step(ASKED_STEPS + 1);
+        Told.put(x, 0, 6, 1, 2, 3);
+        goesOn("a file when it is made", x, "467");
+        check.holds("in place", Told.has(x, 1, 6, 1, 2, 3));
+    }
+
+    private static void aFileThatBecomesNoneCountsAsEmpty() {
+        RollingSync x = new RollingSync();
+        Told.put(x, 0, 6, Told.count(0, 20));
+        x.begin(0, 2, 1, 1);
+        x.step(ASKED_STEPS + 2);
+        x.drop(0, 6);
+        goesOn("END at once, and GONE with the next TRY", x, "6723");
+        states("a TRY was over", x, 5, 0, 6, 0, 7, 1, 9, 16);
+
+        // a block of which nothing is left builds nothing, which is what none has
+        RollingSync y = new RollingSync();
+        Told.put(y, 0, 6, 1, 2, 3);
+        Told.put(y, 1, 6, 1, 2);
+        y.begin(0, 2, 1, 1);
+        y.step(ASKED_STEPS + 1);
+        y.drop(1, 6);
+        y.step(1);
+        states("a block of nothing", y, 8, 1, 13, 0, 14, 5);
+        y.drop(0, 6);
+        goesOn("END with the DIGEST of nothing", y, "67");
+        check.due("an empty file", y.size(1, 6), 0);
+        states("DONE", y, 5, 1, 7, 0);
+    }
+
+    private static void blocksAreTakenAsTheyAreThen() {
+        RollingSync x = new RollingSync();
+        Told.put(x, 0, 6, Told.bytes("ABCDEFGH"));
+        Told.put(x, 1, 6, Told.bytes("EFGHABCD"));
+        x.begin(0, 4, 1, 0);
+        x.step(ASKED_STEPS + 1);
+        x.trim(1, 6, 6);
+        x.step(1);
+        states("as many as there are", x, 8, 1, 13, 2);
+        check.due("A", x.built(0), 'A');
+        check.due("B", x.built(1), 'B');
+        check.due("no more", x.built(2), BAD);
+        x.write(1, 6, 1, 'f', 1);
+        x.step(1);
+        check.due("E", x.built(2), 'E');
+        check.due("f", x.built(3), 'f');
+        x.step(1);
+        states("a TRY was over", x, 7, 1, 14, 6);
+
+        RollingSync y = new RollingSync();
+        Told.put(y, 0, 6, Told.bytes("ABCDEFGH__"));
+        Told.put(y, 1, 6, Told.bytes("ABCDEFGH"));
+        y.begin(0, 4, 1, 0);
+        y.step(ASKED_STEPS + 2);
+        y.trim(0, 6, 3);
+        goesOn("the place is behind the file by now", y, "67" + "2467");
+        check.holds("in place", Told.has(y, 1, 6, Told.bytes("ABC")));
+    }
+
+    private static void builtIsKeptTillTheNextSums() {
+        RollingSync x = new RollingSync();
+        Told.put(x, 0, 6, 1, 2, 3);
+        Told.put(x, 0, 7, 4);
+        x.begin(0, 4, 1, 0);
+        x.step(ASKED_STEPS + 2);
+        check.due("built(2)", x.built(2), 3);
+        check.due("built(3)", x.built(3), BAD);
+        for (int far : FAR) {
+            check.due("built(" + far + ")", x.built(far), BAD);
+        }
+        x.step(2);
+        states("behind ANSWER", x, 14, 7, 13, 3);
+        x.step(1);
+        states("SUMS", x, 14, 2, 13, 0);
+        check.due("SUMS: built(0)", x.built(0), BAD);
+        x.step(1);
+        check.due("of the next file", x.built(0), 4);
+        goesOn("all", x, "67");
+        check.due("OVER: built(0)", x.built(0), BAD);
+        states("OVER", x, 13, 0);
+    }
+
+    private static void cutEndsARun() {
+        RollingSync x = new RollingSync();
+        check.due("no RUN", x.cut(), NO);
+        Told.put(x, 0, 0, Told.count(0, 40));
+        x.begin(0, 4, 1, 0);
+        check.due("at once", x.cut(), 0);
+        states("CUT", x, 0, 3, 15, 1, 14, NO);
+        check.due("CUT twice", x.cut(), NO);
+        check.due("no STEPS", x.step(1), NO);
+        x.begin(0, 4, 1, 0);
+        x.step(ASKED_STEPS + 2);
+        check.due("how many STEPS", x.cut(), ASKED_STEPS + 2);
+        states("CUT", x, 0, 3, 1, 16, 2, 16, 4, 1, 9, 16, 12, 1, 13, 0, 14, 4);
+        check.due("nothing is BUILT", x.built(0), BAD);
+        check.due("nothing in place", x.size(1, 0), NO);
+        x.begin(0, 4, 1, 0);
+        goesOn("from the start", x, ASKED + "2444" + "67");
+        check.due("OVER", x.cut(), NO);
+    }
+
+    private static void stateRefuses() {
+        RollingSync x = new RollingSync();
+        for (int far : FAR) {
+            check.due("state(" + far + ")", x.state(far), BAD);
+        }
+        check.due("state(16)", x.state(16), BAD);
+    }
+
+    private static void sentAddsUp() {
+        RollingSync x = new RollingSync();
+        x.begin(0, 4, 1, 0);
+        x.step(2);
+        x.begin(1, 4, 1, 0);
+        check.due("begin keeps it", x.sent(0), 10);
+        x.step(2);
+        check.due("NODE, then ASK", x.sent(0), 10 + 2);
+        check.due("ASK, then NODE", x.sent(1), 2 + 10);
+        check.due("end 2", x.sent(2), BAD);
+        for (int far : FAR) {
+            check.due("end " + far, x.sent(far), BAD);
+        }
+    }
+
+    private static void sumsAreTheLatest() {
+        RollingSync x = new RollingSync();
+        Told.put(x, 0, 6, 9);
+        Told.put(x, 1, 6, 1, 2, 3, 4, 5, 6, 7);
+        Told.put(x, 0, 7, 9);
+        Told.put(x, 1, 7, 11, 12, 13);
+        x.begin(0, 3, 2, 0);
+        x.step(ASKED_STEPS);
+        check.due("none yet", x.sums(0, 0), BAD);
+        x.step(1);
+        check.due("block 0, WEAK", x.sums(0, 0), Told.weak(1, 2, 3));
+        check.due("block 0, STRONG", x.sums(0, 1), Told.strong(2, 1, 2, 3));
+        check.due("block 1, WEAK", x.sums(1, 0), Told.weak(4, 5, 6));
+        check.due("block 1, STRONG", x.sums(1, 1), Told.strong(2, 4, 5, 6));
+        check.due("whole ones alone", x.sums(2, 0), BAD);
+        check.due("what 2", x.sums(0, 2), BAD);
+        for (int far : FAR) {
+            check.due("block " + far, x.sums(far, 0), BAD);
+            check.due("what " + far, x.sums(0, far), BAD);
+        }
+        x.write(1, 6, 0, 77, 1);
+        check.due("as they were told", x.sums(0, 0), Told.weak(1, 2, 3));
+        x.step(4);
+        check.due("of the next file", x.sums(0, 0), Told.weak(11, 12, 13));
+        check.due("which has one", x.sums(1, 0), BAD);
+        x.step(200);
+        check.due("when the RUN is OVER", x.sums(0, 0), Told.weak(11, 12, 13));
+        x.begin(1, 3, 2, 0);
+        check.due("when the next one begins", x.sums(0, 0), Told.weak(11, 12, 13));
+    }
+
+    private static void strongHasSignByEight() {
+        RollingSync x = new RollingSync();
+        int first = 0;
+        while (Told.digest(first) >= 0) {
+            first++;
+        }
+        Told.put(x, 1, 7, first);
+        Told.put(x, 0, 7, 255 - first);
+        x.begin(0, 1, 8, 0);
+        x.step(ASKED_STEPS + 1);
+        check.due("the DIGEST", x.sums(0, 1), Told.digest(first));
+        x.cut();
+        x.begin(0, 1, 7, 0);
+        x.step(ASKED_STEPS + 1);
+        check.due("its lowest 56 bits", x.sums(0, 1), Told.digest(first) & (1L << 56) - 1);
+    }
+}
