@@ -177,6 +177,7 @@ public final class RollingSync {
         return file >= 0 && file < FILES;
     }
 
+    /** STRONG by k. */
     private static long strong(long digest, int k) {
         // Java shifts by 64 as by 0, so the whole DIGEST needs a case of its own
         return k >= K_MOST ? digest : digest & ((1L << (8 * k)) - 1);
@@ -270,8 +271,8 @@ public final class RollingSync {
             for (int file = 0; file < FILES; file++) {
                 rows[file] = new Row(FILE_MOST);
             }
-            for (int n = FILES - 1; n >= ROOT; n--) {
-                nodes[n] = joined(nodes[2 * n], nodes[2 * n + 1]);
+            for (int file = 0; file < FILES; file++) {
+                refresh(file);
             }
         }
 
@@ -320,25 +321,24 @@ public final class RollingSync {
             refresh(file);
         }
 
+        /** Whoever changes the bytes of a file calls this, as NODES are always as files are now. */
         void refresh(int file) {
             if (!isFile(file)) {
                 return;
             }
             nodes[FILES + file] = present[file] ? rows[file].digestOf(0, FILE_MOST) : 0;
             for (int n = (FILES + file) / 2; n >= ROOT; n /= 2) {
-                nodes[n] = joined(nodes[2 * n], nodes[2 * n + 1]);
+                nodes[n] = mixed(mixed(EMPTY_DIGEST, nodes[2 * n]), nodes[2 * n + 1]);
             }
         }
 
-        private static long joined(long left, long right) {
-            long digest = EMPTY_DIGEST;
+        /** The DIGEST goes on over the eight bytes of a number, the highest first. */
+        private static long mixed(long digest, long number) {
+            long h = digest;
             for (int shift = 56; shift >= 0; shift -= 8) {
-                digest = (digest ^ (left >>> shift & 255)) * DIGEST_FACTOR;
+                h = (h ^ (number >>> shift & 255)) * DIGEST_FACTOR;
             }
-            for (int shift = 56; shift >= 0; shift -= 8) {
-                digest = (digest ^ (right >>> shift & 255)) * DIGEST_FACTOR;
-            }
-            return digest;
+            return h;
         }
     }
 

@@ -140,6 +140,7 @@ public final class FilesTest {
         check.due("drop of an empty one", x.drop(1, 0), 0);
         check.due("it is none, too", x.size(1, 0), NO);
         check.due("write behind what was", x.write(0, 0, 3, 1, 1), BAD);
+        check.due("write of nothing", x.write(0, 0, 0, 1, 0), 0);
         check.due("write at 0", x.write(0, 0, 0, 1, 1), 1);
     }
 

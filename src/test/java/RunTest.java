@@ -33,6 +33,7 @@ public final class RunTest {
         stateRefuses();
         sentAddsUp();
         sumsAreTheLatest();
+        olderSumsAreForgotten();
         strongHasSignByEight();
         check.finish();
     }
@@ -40,7 +41,7 @@ public final class RunTest {
     /** Steps, one by one, till the RUN goes no more: the kind of the MESSAGE of each. */
     private static String kinds(RollingSync x) {
         StringBuilder kinds = new StringBuilder();
-        while (x.step(1) == 1) {
+        for (int i = 0; i < 200 && x.step(1) == 1; i++) {
             kinds.append(x.state(14));
         }
         return kinds.toString();
@@ -89,18 +90,35 @@ public final class RunTest {
 
     private static void beginMakesTheStateAnew() {
         RollingSync x = new RollingSync();
-        Told.put(x, 0, 0, Told.count(0, 40));
-        Told.put(x, 1, 0, Told.count(8, 24));
-        x.begin(0, 8, 1, 0);
-        x.step(ASKED_STEPS + 3);
-        check.holds("there is something to forget", x.state(13) > 0 && x.state(10) > 0);
+        // a file that is DONE, one that is LEFT with FALSE MEETS, and one that is under way
+        Told.put(x, 0, 0, 1);
+        Told.put(x, 0, 1, 1, 3, 1);
+        Told.put(x, 1, 1, 2, 1, 2);
+        Told.put(x, 0, 2, Told.count(0, 40));
+        Told.put(x, 1, 2, Told.count(6, 24));
+        x.lose(2);
+        x.begin(0, 3, 1, 0);
+        stepTillDone(x, 1);
+        for (int i = 0; i < 100 && x.state(6) < 1; i++) {
+            x.step(1);
+            if (x.state(14) == 4) {
+                x.write(0, 1, 0, i, 1);
+            }
+        }
+        x.step(6);
+        for (int what = 0; what < 15; what++) {
+            check.holds("something to forget in state(" + what + ")", x.state(what) > 0);
+        }
         x.cut();
-        x.begin(0, 8, 1, 0);
+        x.begin(0, 3, 1, 0);
         for (int what = 0; what < 16; what++) {
             int want = what == 0 || what == 15 ? 1 : what == 14 ? NO : 0;
             check.due("begun: state(" + what + ")", x.state(what), want);
         }
         check.due("begun: built", x.built(0), BAD);
+        x.write(0, 1, 0, 0, 1);
+        x.step(200);
+        states("a RUN of its own", x, 4, 0, 5, 2, 6, 0, 7, 0);
     }
 
     private static void stepCounts() {
@@ -166,6 +184,12 @@ public final class RunTest {
         states("done", x, 4, 0, 5, 1);
     }
 
+    private static void stepTillDone(RollingSync x, int files) {
+        for (int i = 0; i < 100 && x.state(5) < files; i++) {
+            x.step(1);
+        }
+    }
+
     private static void filesAreDoneInOrder() {
         RollingSync x = new RollingSync();
         int[] order = {5, 1, 6};
@@ -173,14 +197,10 @@ public final class RunTest {
             Told.put(x, 1, file, 1, 2, 3);
         }
         x.begin(1, 4, 4, 0);
-        while (x.state(5) < 1) {
-            x.step(1);
-        }
+        stepTillDone(x, 1);
         check.holds("the least first", Told.alike(x, 1) && !Told.alike(x, 5) && !Told.alike(x, 6));
         states("one done", x, 4, 2, 15, 0);
-        while (x.state(5) < 2) {
-            x.step(1);
-        }
+        stepTillDone(x, 2);
         check.holds("then the next", Told.alike(x, 5) && !Told.alike(x, 6));
         x.step(200);
         check.due("all alike", x.node(0, 1), x.node(1, 1));
@@ -374,6 +394,14 @@ public final class RunTest {
         check.due("RULE 2: it is none, changed as it is", x.size(1, 6), NO);
         check.due("RULE 2: the other, too", x.size(1, 7), NO);
 
+        RollingSync all = new RollingSync();
+        for (int file = 0; file < 8; file++) {
+            Told.put(all, 1, file, file);
+        }
+        all.begin(0, 1, 1, 2);
+        all.step(200);
+        check.due("RULE 2: all of them", all.node(1, 1), all.node(0, 1));
+
         x = withTwoGone(2);
         x.cut();
         check.due("RULE 2, CUT: it is there", x.size(1, 6), 3);
@@ -518,6 +546,17 @@ public final class RunTest {
         }
     }
 
+    private static void olderSumsAreForgotten() {
+        RollingSync x = new RollingSync();
+        Told.put(x, 0, 6, 9);
+        Told.put(x, 1, 6, 1, 2, 3, 4);
+        Told.put(x, 0, 7, 1, 2, 3, 4);
+        Told.put(x, 1, 7, 1, 2);
+        x.begin(0, 2, 1, 0);
+        goesOn("blocks of the file before do not meet", x, ASKED + "2467" + "25467");
+        states("one block", x, 5, 2, 8, 1, 9, 3, 10, 1);
+    }
+
     private static void sumsAreTheLatest() {
         RollingSync x = new RollingSync();
         Told.put(x, 0, 6, 9);
@@ -552,7 +591,7 @@ public final class RunTest {
     private static void strongHasSignByEight() {
         RollingSync x = new RollingSync();
         int first = 0;
-        while (Told.digest(first) >= 0) {
+        while (first < 255 && Told.digest(first) >= 0) {
             first++;
         }
         Told.put(x, 1, 7, first);
