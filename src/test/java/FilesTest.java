@@ -25,6 +25,7 @@ public final class FilesTest {
     }
 
     private static void newObject() {
+        check.sentence("No files, no RUN");
         RollingSync x = new RollingSync();
         for (int end = 0; end < 2; end++) {
             for (int file = 0; file < 8; file++) {
@@ -46,6 +47,7 @@ public final class FilesTest {
     }
 
     private static void write() {
+        check.sentence("The lowest n bytes of a number are written from a place on");
         RollingSync x = new RollingSync();
         check.due("write of a file that is none", x.write(0, 3, 0, 0x0102030405060708L, 8), 8);
         check.holds("highest byte first", Told.has(x, 0, 3, 1, 2, 3, 4, 5, 6, 7, 8));
@@ -71,6 +73,7 @@ public final class FilesTest {
     }
 
     private static void writeAtTheLimit() {
+        check.sentence("write: FULL: more than 500");
         RollingSync x = new RollingSync();
         x.write(0, 0, 0, 1, 1);
         x.again(0, 0, 0, 495);
@@ -87,6 +90,7 @@ public final class FilesTest {
     }
 
     private static void again() {
+        check.sentence("n bytes of a file, from a place on, are put behind it, one by one");
         RollingSync x = new RollingSync();
         Told.put(x, 1, 2, 10, 20, 30);
         check.due("again", x.again(1, 2, 1, 2), 5);
@@ -112,6 +116,7 @@ public final class FilesTest {
     }
 
     private static void trim() {
+        check.sentence("A file keeps its first n bytes: how many it had");
         RollingSync x = new RollingSync();
         Told.put(x, 0, 7, 1, 2, 3, 4, 5);
         check.due("trim to its size", x.trim(0, 7, 5), 5);
@@ -131,6 +136,7 @@ public final class FilesTest {
     }
 
     private static void drop() {
+        check.sentence("A file is none: its size");
         RollingSync x = new RollingSync();
         Told.put(x, 0, 0, 1, 2, 3);
         x.write(1, 0, 0, 0, 0);
@@ -145,6 +151,7 @@ public final class FilesTest {
     }
 
     private static void same() {
+        check.sentence("An end's file becomes as the other end's is (none, too): its size");
         RollingSync x = new RollingSync();
         Told.put(x, 0, 6, 1, 2, 3);
         Told.put(x, 1, 6, 9, 9, 9, 9, 9);
@@ -164,6 +171,7 @@ public final class FilesTest {
     }
 
     private static void at() {
+        check.sentence("Byte i of a file; BAD: no such end, file, byte");
         RollingSync x = new RollingSync();
         Told.put(x, 1, 1, 0, 128, 255);
         check.due("byte 0", x.at(1, 1, 0), 0);
@@ -177,6 +185,7 @@ public final class FilesTest {
     }
 
     private static void size() {
+        check.sentence("A file's size; NO: it is none");
         RollingSync x = new RollingSync();
         check.due("none", x.size(1, 5), NO);
         x.write(1, 5, 0, 0, 8);
@@ -185,6 +194,7 @@ public final class FilesTest {
     }
 
     private static void node() {
+        check.sentence("A NODE (1 .. 15) of an end; 0: no such");
         RollingSync x = new RollingSync();
         int[][] files = new int[8][];
         for (int file = 0; file < 8; file++) {
@@ -215,6 +225,7 @@ public final class FilesTest {
     }
 
     private static void nodeFollowsEachChange() {
+        check.sentence("NODES are always as files are now");
         RollingSync x = new RollingSync();
         long none = x.node(0, 1);
         Told.put(x, 0, 4, 1, 2);
@@ -234,6 +245,7 @@ public final class FilesTest {
     }
 
     private static void weak() {
+        check.sentence("WEAK of n bytes (1 .. 64) of a file from a place on, without sign");
         RollingSync x = new RollingSync();
         Told.put(x, 0, 1, 1, 2, 3, 4);
         check.due("of 1 2 3", x.weak(0, 1, 0, 3), 6 + 65536L * 10);
@@ -259,6 +271,7 @@ public final class FilesTest {
     }
 
     private static void noSuchEndOrFile() {
+        check.sentence("BAD: no such end, file");
         RollingSync x = new RollingSync();
         Told.put(x, 0, 0, 1, 2, 3);
         Told.put(x, 1, 7, 1, 2, 3);
@@ -277,6 +290,7 @@ public final class FilesTest {
             check.due("size" + of, x.size(end, file), BAD);
             check.due("weak" + of, x.weak(end, file, 0, 1), BAD);
         }
-        check.holds("nothing has changed", Told.has(x, 0, 0, 1, 2, 3) && Told.has(x, 1, 7, 1, 2, 3));
+        check.holds("nothing has changed", Told.has(x, 0, 0, 1, 2, 3));
+        check.holds("nor at the other end", Told.has(x, 1, 7, 1, 2, 3));
     }
 }

@@ -2,9 +2,8 @@
 public final class RunTest {
     private static final int BAD = Told.BAD, NO = Told.NO;
     private static final int[] FAR = {Integer.MIN_VALUE, -1, Integer.MAX_VALUE};
-    /** What is sent till one file alone is TO DO: seven times ASK and NODE. */
-    private static final String ASKED = "01010101010101";
-    private static final int ASKED_STEPS = 14;
+    private static final String ASKED = Told.ASKED;
+    private static final int ASKED_STEPS = Told.ASKED_STEPS;
     private static final Check check = new Check("RunTest");
 
     private RunTest() {
@@ -38,30 +37,8 @@ public final class RunTest {
         check.finish();
     }
 
-    /** Steps, one by one, till the RUN goes no more: the kind of the MESSAGE of each. */
-    private static String kinds(RollingSync x) {
-        StringBuilder kinds = new StringBuilder();
-        for (int i = 0; i < 200 && x.step(1) == 1; i++) {
-            kinds.append(x.state(14));
-        }
-        return kinds.toString();
-    }
-
-    private static void goesOn(String what, RollingSync x, String want) {
-        int before = x.state(1);
-        String got = kinds(x);
-        check.holds(what + ": kinds " + got + " are " + want, got.equals(want));
-        check.due(what + ": the RUN is OVER", x.state(0), 2);
-        check.due(what + ": a STEP for each MESSAGE", x.state(1), before + want.length());
-    }
-
-    private static void states(String what, RollingSync x, int... pairs) {
-        for (int i = 0; i < pairs.length; i += 2) {
-            check.due(what + ": state(" + pairs[i] + ")", x.state(pairs[i]), pairs[i + 1]);
-        }
-    }
-
     private static void beginRefuses() {
+        check.sentence("begin: BAD, NO");
         RollingSync x = new RollingSync();
         check.due("source 2", x.begin(2, 1, 1, 0), BAD);
         check.due("block 0", x.begin(0, 0, 1, 0), BAD);
@@ -89,6 +66,7 @@ public final class RunTest {
     }
 
     private static void beginMakesTheStateAnew() {
+        check.sentence("state: Of the latest RUN");
         RollingSync x = new RollingSync();
         // a file that is DONE, one that is LEFT with FALSE MEETS, and one that is under way
         Told.put(x, 0, 0, 1);
@@ -118,10 +96,11 @@ public final class RunTest {
         check.due("begun: built", x.built(0), BAD);
         x.write(0, 1, 0, 0, 1);
         x.step(200);
-        states("a RUN of its own", x, 4, 0, 5, 2, 6, 0, 7, 0);
+        check.states("a RUN of its own", x, 4, 0, 5, 2, 6, 0, 7, 0);
     }
 
     private static void stepCounts() {
+        check.sentence("n STEPS, or as many as there are till the RUN is OVER");
         RollingSync x = new RollingSync();
         check.due("no RUN", x.step(1), NO);
         check.due("BAD is before NO", x.step(0), BAD);
@@ -146,10 +125,11 @@ public final class RunTest {
     }
 
     private static void nodesAreAskedInOrder() {
+        check.sentence("ASK n: the one that came to wait last");
         RollingSync x = new RollingSync();
         check.due("alike", x.begin(1, 4, 4, 0), 1);
-        states("nothing asked", x, 15, 1, 14, NO);
-        goesOn("alike", x, "01");
+        check.states("nothing asked", x, 15, 1, 14, NO);
+        check.goesOn("alike", x, "01");
 
         Told.put(x, 0, 0, 1);
         Told.put(x, 0, 7, 1);
@@ -159,29 +139,30 @@ public final class RunTest {
         int[] toDo = {0, 0, 0, 1, 1, 1, 1, 1, 1, 1, 2};
         for (int i = 0; i < waits.length; i++) {
             x.step(1);
-            states("ask " + i, x, 14, 0, 15, i == 0 ? 0 : waits[i - 1] - 1);
+            check.states("ask " + i, x, 14, 0, 15, i == 0 ? 0 : waits[i - 1] - 1);
             x.step(1);
-            states("node " + i, x, 14, 1, 15, waits[i], 4, toDo[i]);
+            check.states("node " + i, x, 14, 1, 15, waits[i], 4, toDo[i]);
         }
         check.due("a NODE, then ASKs", x.sent(1), 10 + 2 * 11);
         check.due("an ASK, then NODES", x.sent(0), 2 + 10 * 11);
-        goesOn("one byte each", x, "24672467");
+        check.goesOn("one byte each", x, "24672467");
     }
 
     private static void nodesAreComparedAsTheyAreThen() {
+        check.sentence("NODE n: its number as it is then");
         RollingSync x = new RollingSync();
         Told.put(x, 0, 3, 1);
         x.begin(0, 4, 4, 0);
         x.step(1);
         x.drop(0, 3);
-        goesOn("the NODE is made when it is sent", x, "1");
+        check.goesOn("the NODE is made when it is sent", x, "1");
         Told.put(x, 0, 3, 1);
         x.begin(0, 4, 4, 0);
         x.step(ASKED_STEPS);
-        states("to do", x, 4, 1);
+        check.states("to do", x, 4, 1);
         x.same(1, 3);
-        goesOn("TO DO though alike by now", x, "2467");
-        states("done", x, 4, 0, 5, 1);
+        check.goesOn("TO DO though alike by now", x, "2467");
+        check.states("done", x, 4, 0, 5, 1);
     }
 
     private static void stepTillDone(RollingSync x, int files) {
@@ -191,6 +172,7 @@ public final class RunTest {
     }
 
     private static void filesAreDoneInOrder() {
+        check.sentence("SUMS of f: for the least f that is TO DO");
         RollingSync x = new RollingSync();
         int[] order = {5, 1, 6};
         for (int file : order) {
@@ -199,48 +181,50 @@ public final class RunTest {
         x.begin(1, 4, 4, 0);
         stepTillDone(x, 1);
         check.holds("the least first", Told.alike(x, 1) && !Told.alike(x, 5) && !Told.alike(x, 6));
-        states("one done", x, 4, 2, 15, 0);
+        check.states("one done", x, 4, 2, 15, 0);
         stepTillDone(x, 2);
         check.holds("then the next", Told.alike(x, 5) && !Told.alike(x, 6));
         x.step(200);
         check.due("all alike", x.node(0, 1), x.node(1, 1));
-        states("all done", x, 0, 2, 4, 0, 5, 3, 6, 0, 7, 0);
+        check.states("all done", x, 0, 2, 4, 0, 5, 3, 6, 0, 7, 0);
     }
 
     private static void bytesGoBySixteen() {
+        check.sentence("BYTES: or there are 16, or the file ends");
         RollingSync x = new RollingSync();
         Told.put(x, 0, 2, Told.count(0, 33));
         x.begin(0, 4, 3, 0);
         x.step(ASKED_STEPS + 1);
         check.due("SUMS of none", x.sent(1), 2 * 7 + 6);
-        states("SUMS", x, 12, 3, 14, 2);
+        check.states("SUMS", x, 12, 3, 14, 2);
         x.step(1);
-        states("16 bytes", x, 9, 16, 13, 16, 14, 4);
+        check.states("16 bytes", x, 9, 16, 13, 16, 14, 4);
         check.due("their size", x.sent(0), 70 + 18);
         x.step(2);
-        states("33 bytes", x, 9, 33, 13, 33, 14, 4);
+        check.states("33 bytes", x, 9, 33, 13, 33, 14, 4);
         check.due("all of their sizes", x.sent(0), 70 + 18 + 18 + 3);
         check.due("built", x.built(32), 32);
         check.due("built no more", x.built(33), BAD);
         check.due("not in place yet", x.size(1, 2), NO);
-        goesOn("END and ANSWER", x, "67");
+        check.goesOn("END and ANSWER", x, "67");
         check.holds("in place", Told.has(x, 1, 2, Told.count(0, 33)));
-        states("all", x, 8, 0, 10, 0, 13, 0);
+        check.states("all", x, 8, 0, 10, 0, 13, 0);
         check.due("END's size", x.sent(0), 70 + 18 + 18 + 3 + 11);
         check.due("ANSWER's size", x.sent(1), 2 * 7 + 6 + 1);
 
         RollingSync y = new RollingSync();
         Told.put(y, 0, 1, Told.count(0, 32));
         y.begin(0, 4, 3, 0);
-        goesOn("two times 16", y, ASKED + "24467");
+        check.goesOn("two times 16", y, ASKED + "24467");
         RollingSync z = new RollingSync();
         Told.put(z, 0, 1);
         z.begin(0, 4, 3, 0);
-        goesOn("an empty file", z, ASKED + "267");
+        check.goesOn("an empty file", z, ASKED + "267");
         check.due("an empty file is in place", z.size(1, 1), 0);
     }
 
     private static void looksStopBytes() {
+        check.sentence("which is for the next MESSAGE, by a LOOK of its own");
         RollingSync x = new RollingSync();
         Told.put(x, 0, 4, Told.bytes("xyzABCDpABCDEFGHq"));
         Told.put(x, 1, 4, Told.bytes("ABCDEFGH123"));
@@ -248,42 +232,44 @@ public final class RunTest {
         x.step(ASKED_STEPS + 1);
         check.due("SUMS of two blocks", x.sent(1), 2 * 7 + 6 + 2 * 5);
         x.step(1);
-        states("xyz, stopped by a MEET", x, 14, 4, 9, 3, 10, 1);
+        check.states("xyz, stopped by a MEET", x, 14, 4, 9, 3, 10, 1);
         x.step(1);
-        states("its block, by a MEET of its own", x, 14, 5, 8, 1, 10, 2, 13, 7);
+        check.states("its block, by a MEET of its own", x, 14, 5, 8, 1, 10, 2, 13, 7);
         check.due("sizes", x.sent(0), 70 + 5 + 4);
         check.due("built", x.built(3), 'A');
         x.step(1);
-        states("p", x, 14, 4, 9, 4, 10, 3);
+        check.states("p", x, 14, 4, 9, 4, 10, 3);
         x.step(2);
-        states("two blocks", x, 14, 5, 8, 3, 10, 5, 13, 16);
-        goesOn("q", x, "467");
-        states("all", x, 5, 1, 9, 5, 10, 5, 11, 0);
+        check.states("two blocks", x, 14, 5, 8, 3, 10, 5, 13, 16);
+        check.goesOn("q", x, "467");
+        check.states("all", x, 5, 1, 9, 5, 10, 5, 11, 0);
         check.holds("in place", Told.has(x, 1, 4, Told.bytes("xyzABCDpABCDEFGHq")));
     }
 
     private static void noLookBehindTheSixteenth() {
+        check.sentence("with a LOOK behind each but a 16th");
         RollingSync x = new RollingSync();
         Told.put(x, 0, 4, Told.bytes("0123456789abcdefABCD"));
         Told.put(x, 1, 4, Told.bytes("ABCD"));
         x.begin(0, 4, 1, 0);
         x.step(ASKED_STEPS + 2);
-        states("16, and no LOOK", x, 9, 16, 10, 0);
+        check.states("16, and no LOOK", x, 9, 16, 10, 0);
         x.step(1);
-        states("a LOOK for the next MESSAGE", x, 8, 1, 10, 1, 14, 5);
-        goesOn("all", x, "67");
+        check.states("a LOOK for the next MESSAGE", x, 8, 1, 10, 1, 14, 5);
+        check.goesOn("all", x, "67");
 
         RollingSync y = new RollingSync();
         Told.put(y, 0, 4, Told.bytes("0123456789abcdeABCD"));
         Told.put(y, 1, 4, Told.bytes("ABCD"));
         y.begin(0, 4, 1, 0);
         y.step(ASKED_STEPS + 2);
-        states("15, and a LOOK", y, 9, 15, 10, 1);
-        goesOn("all", y, "567");
-        states("all", y, 10, 2);
+        check.states("15, and a LOOK", y, 9, 15, 10, 1);
+        check.goesOn("all", y, "567");
+        check.states("all", y, 10, 2);
     }
 
     private static void theFirstBlockIsFound() {
+        check.sentence("the first block with their WEAK and their STRONG is found");
         RollingSync x = new RollingSync();
         Told.put(x, 0, 4, Told.bytes("ABCD"));
         Told.put(x, 1, 4, Told.bytes("????ABCDABCD"));
@@ -300,22 +286,24 @@ public final class RunTest {
         Told.put(y, 0, 4, 2, 1, 2);
         Told.put(y, 1, 4, 1, 3, 1, 2, 1, 2);
         y.begin(0, 3, 1, 0);
-        goesOn("one block", y, ASKED + "2567");
-        states("one MEET that is not FALSE", y, 5, 1, 8, 1, 10, 1, 11, 0);
+        check.goesOn("one block", y, ASKED + "2567");
+        check.states("one MEET that is not FALSE", y, 5, 1, 8, 1, 10, 1, 11, 0);
     }
 
     private static void falseMeets() {
+        check.sentence("a MEET that finds none is FALSE");
         check.due("one WEAK", Told.weak(1, 3, 1), Told.weak(2, 1, 2));
         check.holds("two STRONGs", Told.strong(1, 1, 3, 1) != Told.strong(1, 2, 1, 2));
         RollingSync x = new RollingSync();
         Told.put(x, 0, 4, 9, 1, 3, 1, 9);
         Told.put(x, 1, 4, 2, 1, 2);
         x.begin(0, 3, 1, 0);
-        goesOn("FALSE", x, ASKED + "2467");
-        states("FALSE", x, 5, 1, 8, 0, 9, 5, 10, 1, 11, 1);
+        check.goesOn("FALSE", x, ASKED + "2467");
+        check.states("FALSE", x, 5, 1, 8, 0, 9, 5, 10, 1, 11, 1);
     }
 
     private static void aStrongThatMeetsWronglyCostsATry() {
+        check.sentence("Else the TRY is over");
         int[][] pair = {{3, 4, 0}, {4, 2, 1}};
         check.due("one WEAK", Told.weak(pair[0]), Told.weak(pair[1]));
         check.due("one STRONG by 1", Told.strong(1, pair[0]), Told.strong(1, pair[1]));
@@ -325,20 +313,21 @@ public final class RunTest {
         Told.put(x, 1, 6, pair[1]);
         x.begin(0, 3, 1, 0);
         x.step(ASKED_STEPS + 3);
-        states("a TRY was over", x, 4, 1, 5, 0, 7, 1, 8, 1, 12, 1, 14, 6);
+        check.states("a TRY was over", x, 4, 1, 5, 0, 7, 1, 8, 1, 12, 1, 14, 6);
         check.holds("nothing is put in place", Told.has(x, 1, 6, pair[1]));
         x.step(1);
-        states("the ANSWER", x, 14, 7, 12, 1);
+        check.states("the ANSWER", x, 14, 7, 12, 1);
         x.step(1);
-        states("SUMS by 2", x, 14, 2, 12, 2, 13, 0);
+        check.states("SUMS by 2", x, 14, 2, 12, 2, 13, 0);
         check.due("STRONG by 2", x.sums(0, 1), Told.strong(2, pair[1]));
-        goesOn("the bytes", x, "467");
-        states("done by the second", x, 4, 0, 5, 1, 6, 0, 7, 1, 10, 2, 11, 1);
+        check.goesOn("the bytes", x, "467");
+        check.states("done by the second", x, 4, 0, 5, 1, 6, 0, 7, 1, 10, 2, 11, 1);
         check.holds("in place", Told.has(x, 1, 6, pair[0]));
         check.due("sizes of two SUMS", x.sent(1), 14 + 11 + 1 + 12 + 1);
     }
 
     private static void threeTriesLeaveAFile() {
+        check.sentence("with the third TRY f is LEFT");
         RollingSync x = new RollingSync();
         Told.put(x, 0, 0, Told.count(0, 20));
         Told.put(x, 0, 1, 5);
@@ -347,18 +336,18 @@ public final class RunTest {
         int[] ks = {3, 6, 8};
         for (int i = 0; i < 3; i++) {
             x.step(2);
-            states("SUMS and BYTES", x, 6, 0, 7, i, 12, ks[i], 14, 4);
+            check.states("SUMS and BYTES", x, 6, 0, 7, i, 12, ks[i], 14, 4);
             x.write(0, 0, 0, 100 + i, 1);
             x.step(3);
-            states("a TRY was over", x, 5, 0, 7, i + 1, 14, 7);
+            check.states("a TRY was over", x, 5, 0, 7, i + 1, 14, 7);
         }
         check.due("LEFT", x.state(6), 1);
         check.due("not TO DO any more", x.state(4), 1);
         check.due("nothing is in place", x.size(1, 0), NO);
         x.step(1);
-        states("the next file by the first k", x, 12, 3, 14, 2);
-        goesOn("which is DONE", x, "467");
-        states("all", x, 4, 0, 5, 1, 6, 1, 7, 3);
+        check.states("the next file by the first k", x, 12, 3, 14, 2);
+        check.goesOn("which is DONE", x, "467");
+        check.states("all", x, 4, 0, 5, 1, 6, 1, 7, 3);
     }
 
     private static RollingSync withTwoGone(int rule) {
@@ -367,22 +356,23 @@ public final class RunTest {
         Told.put(x, 1, 7, 4);
         x.begin(0, 2, 1, rule);
         x.step(ASKED_STEPS + 2);
-        states("rule " + rule + ": GONE", x, 14, 3, 4, 1, 5, 0);
+        check.states("rule " + rule + ": GONE", x, 14, 3, 4, 1, 5, 0);
         check.due("its size", x.sent(0), 71);
         return x;
     }
 
     private static void goneByRules() {
+        check.sentence("by RULE 0 nothing else; 1: from now on; 2: when the RUN gets OVER");
         RollingSync x = withTwoGone(0);
         check.due("RULE 0: it stays", x.size(1, 6), 3);
-        goesOn("RULE 0", x, "23");
+        check.goesOn("RULE 0", x, "23");
         check.due("RULE 0: it stays", x.size(1, 6), 3);
-        states("RULE 0", x, 4, 0, 5, 0, 6, 0);
+        check.states("RULE 0", x, 4, 0, 5, 0, 6, 0);
 
         x = withTwoGone(1);
         check.due("RULE 1: it is none", x.size(1, 6), NO);
         check.due("RULE 1: not the other yet", x.size(1, 7), 1);
-        goesOn("RULE 1", x, "23");
+        check.goesOn("RULE 1", x, "23");
         check.due("RULE 1: the other, too", x.size(1, 7), NO);
 
         x = withTwoGone(2);
@@ -390,7 +380,7 @@ public final class RunTest {
         x.write(1, 6, 0, 8, 1);
         x.step(1);
         check.due("RULE 2: it is there still", x.size(1, 6), 3);
-        goesOn("RULE 2", x, "3");
+        check.goesOn("RULE 2", x, "3");
         check.due("RULE 2: it is none, changed as it is", x.size(1, 6), NO);
         check.due("RULE 2: the other, too", x.size(1, 7), NO);
 
@@ -411,30 +401,32 @@ public final class RunTest {
     }
 
     private static void goneIsLookedAtOnlyBehindSums() {
+        check.sentence("GONE, behind SUMS, if it has no file f when this is made");
         RollingSync x = new RollingSync();
         Told.put(x, 0, 6, Told.count(0, 20));
         x.begin(0, 2, 1, 1);
         x.step(ASKED_STEPS + 1);
         x.drop(0, 6);
         x.step(1);
-        states("none when it is made", x, 14, 3, 0, 2);
+        check.states("none when it is made", x, 14, 3, 0, 2);
 
         Told.put(x, 1, 6, 1);
         x.begin(0, 2, 1, 1);
         x.step(ASKED_STEPS + 1);
         Told.put(x, 0, 6, 1, 2, 3);
-        goesOn("a file when it is made", x, "467");
+        check.goesOn("a file when it is made", x, "467");
         check.holds("in place", Told.has(x, 1, 6, 1, 2, 3));
     }
 
     private static void aFileThatBecomesNoneCountsAsEmpty() {
+        check.sentence("a file that is none by now counts as empty");
         RollingSync x = new RollingSync();
         Told.put(x, 0, 6, Told.count(0, 20));
         x.begin(0, 2, 1, 1);
         x.step(ASKED_STEPS + 2);
         x.drop(0, 6);
-        goesOn("END at once, and GONE with the next TRY", x, "6723");
-        states("a TRY was over", x, 5, 0, 6, 0, 7, 1, 9, 16);
+        check.goesOn("END at once, and GONE with the next TRY", x, "6723");
+        check.states("a TRY was over", x, 5, 0, 6, 0, 7, 1, 9, 16);
 
         // a block of which nothing is left builds nothing, which is what none has
         RollingSync y = new RollingSync();
@@ -444,14 +436,15 @@ public final class RunTest {
         y.step(ASKED_STEPS + 1);
         y.drop(1, 6);
         y.step(1);
-        states("a block of nothing", y, 8, 1, 13, 0, 14, 5);
+        check.states("a block of nothing", y, 8, 1, 13, 0, 14, 5);
         y.drop(0, 6);
-        goesOn("END with the DIGEST of nothing", y, "67");
+        check.goesOn("END with the DIGEST of nothing", y, "67");
         check.due("an empty file", y.size(1, 6), 0);
-        states("DONE", y, 5, 1, 7, 0);
+        check.states("DONE", y, 5, 1, 7, 0);
     }
 
     private static void blocksAreTakenAsTheyAreThen() {
+        check.sentence("of a BLOCK the bytes of TARGET's own file then");
         RollingSync x = new RollingSync();
         Told.put(x, 0, 6, Told.bytes("ABCDEFGH"));
         Told.put(x, 1, 6, Told.bytes("EFGHABCD"));
@@ -459,7 +452,7 @@ public final class RunTest {
         x.step(ASKED_STEPS + 1);
         x.trim(1, 6, 6);
         x.step(1);
-        states("as many as there are", x, 8, 1, 13, 2);
+        check.states("as many as there are", x, 8, 1, 13, 2);
         check.due("A", x.built(0), 'A');
         check.due("B", x.built(1), 'B');
         check.due("no more", x.built(2), BAD);
@@ -468,7 +461,7 @@ public final class RunTest {
         check.due("E", x.built(2), 'E');
         check.due("f", x.built(3), 'f');
         x.step(1);
-        states("a TRY was over", x, 7, 1, 14, 6);
+        check.states("a TRY was over", x, 7, 1, 14, 6);
 
         RollingSync y = new RollingSync();
         Told.put(y, 0, 6, Told.bytes("ABCDEFGH__"));
@@ -476,11 +469,12 @@ public final class RunTest {
         y.begin(0, 4, 1, 0);
         y.step(ASKED_STEPS + 2);
         y.trim(0, 6, 3);
-        goesOn("the place is behind the file by now", y, "67" + "2467");
+        check.goesOn("the place is behind the file by now", y, "67" + "2467");
         check.holds("in place", Told.has(y, 1, 6, Told.bytes("ABC")));
     }
 
     private static void builtIsKeptTillTheNextSums() {
+        check.sentence("What TARGET has BUILT is empty when SUMS are sent");
         RollingSync x = new RollingSync();
         Told.put(x, 0, 6, 1, 2, 3);
         Told.put(x, 0, 7, 4);
@@ -492,38 +486,40 @@ public final class RunTest {
             check.due("built(" + far + ")", x.built(far), BAD);
         }
         x.step(2);
-        states("behind ANSWER", x, 14, 7, 13, 3);
+        check.states("behind ANSWER", x, 14, 7, 13, 3);
         x.step(1);
-        states("SUMS", x, 14, 2, 13, 0);
+        check.states("SUMS", x, 14, 2, 13, 0);
         check.due("SUMS: built(0)", x.built(0), BAD);
         x.step(1);
         check.due("of the next file", x.built(0), 4);
-        goesOn("all", x, "67");
+        check.goesOn("all", x, "67");
         check.due("OVER: built(0)", x.built(0), BAD);
-        states("OVER", x, 13, 0);
+        check.states("OVER", x, 13, 0);
     }
 
     private static void cutEndsARun() {
+        check.sentence("A RUN that GOES is CUT: how many STEPS it had");
         RollingSync x = new RollingSync();
         check.due("no RUN", x.cut(), NO);
         Told.put(x, 0, 0, Told.count(0, 40));
         x.begin(0, 4, 1, 0);
         check.due("at once", x.cut(), 0);
-        states("CUT", x, 0, 3, 15, 1, 14, NO);
+        check.states("CUT", x, 0, 3, 15, 1, 14, NO);
         check.due("CUT twice", x.cut(), NO);
         check.due("no STEPS", x.step(1), NO);
         x.begin(0, 4, 1, 0);
         x.step(ASKED_STEPS + 2);
         check.due("how many STEPS", x.cut(), ASKED_STEPS + 2);
-        states("CUT", x, 0, 3, 1, 16, 2, 16, 4, 1, 9, 16, 12, 1, 13, 0, 14, 4);
+        check.states("CUT", x, 0, 3, 1, 16, 2, 16, 4, 1, 9, 16, 12, 1, 13, 0, 14, 4);
         check.due("nothing is BUILT", x.built(0), BAD);
         check.due("nothing in place", x.size(1, 0), NO);
         x.begin(0, 4, 1, 0);
-        goesOn("from the start", x, ASKED + "2444" + "67");
+        check.goesOn("from the start", x, ASKED + "2444" + "67");
         check.due("OVER", x.cut(), NO);
     }
 
     private static void stateRefuses() {
+        check.sentence("state: BAD: another what");
         RollingSync x = new RollingSync();
         for (int far : FAR) {
             check.due("state(" + far + ")", x.state(far), BAD);
@@ -532,6 +528,7 @@ public final class RunTest {
     }
 
     private static void sentAddsUp() {
+        check.sentence("How many bytes the MESSAGES of an end had, in all");
         RollingSync x = new RollingSync();
         x.begin(0, 4, 1, 0);
         x.step(2);
@@ -547,17 +544,19 @@ public final class RunTest {
     }
 
     private static void olderSumsAreForgotten() {
+        check.sentence("some block of the SUMS has their WEAK");
         RollingSync x = new RollingSync();
         Told.put(x, 0, 6, 9);
         Told.put(x, 1, 6, 1, 2, 3, 4);
         Told.put(x, 0, 7, 1, 2, 3, 4);
         Told.put(x, 1, 7, 1, 2);
         x.begin(0, 2, 1, 0);
-        goesOn("blocks of the file before do not meet", x, ASKED + "2467" + "25467");
-        states("one block", x, 5, 2, 8, 1, 9, 3, 10, 1);
+        check.goesOn("blocks of the file before do not meet", x, ASKED + "2467" + "25467");
+        check.states("one block", x, 5, 2, 8, 1, 9, 3, 10, 1);
     }
 
     private static void sumsAreTheLatest() {
+        check.sentence("Of block i of the latest SUMS that came");
         RollingSync x = new RollingSync();
         Told.put(x, 0, 6, 9);
         Told.put(x, 1, 6, 1, 2, 3, 4, 5, 6, 7);
@@ -589,6 +588,7 @@ public final class RunTest {
     }
 
     private static void strongHasSignByEight() {
+        check.sentence("STRONG, by k: its lowest 8 k bits");
         RollingSync x = new RollingSync();
         int first = 0;
         while (first < 255 && Told.digest(first) >= 0) {

@@ -4,6 +4,9 @@ import java.math.BigInteger;
 final class Told {
     static final int BAD = RollingSync.BAD, NO = RollingSync.NO, FULL = RollingSync.FULL;
     static final long EMPTY = -3750763034362895579L;
+    /** Kinds of what is sent till one file alone is TO DO: seven times ASK and NODE. */
+    static final String ASKED = "01010101010101";
+    static final int ASKED_STEPS = ASKED.length();
 
     private static final BigInteger FACTOR = BigInteger.valueOf(1099511628211L);
     private static final BigInteger MODULUS = BigInteger.ONE.shiftLeft(64);
@@ -68,6 +71,15 @@ final class Told {
             bytes[i] = (first + i) & 255;
         }
         return bytes;
+    }
+
+    /** Steps, one by one, till the RUN goes no more: the kind of the MESSAGE of each. */
+    static String kinds(RollingSync x) {
+        StringBuilder kinds = new StringBuilder();
+        for (int i = 0; i < 200 && x.step(1) == 1; i++) {
+            kinds.append(x.state(14));
+        }
+        return kinds.toString();
     }
 
     static boolean alike(RollingSync x, int file) {
