@@ -33,6 +33,7 @@ public final class RunTest {
         sentAddsUp();
         sumsAreTheLatest();
         olderSumsAreForgotten();
+        aCutRunIsForgotten();
         strongHasSignByEight();
         check.finish();
     }
@@ -553,6 +554,49 @@ public final class RunTest {
         x.begin(0, 2, 1, 0);
         check.goesOn("blocks of the file before do not meet", x, ASKED + "2467" + "25467");
         check.states("one block", x, 5, 2, 8, 1, 9, 3, 10, 1);
+
+        // of file 7 the one block has the WEAK of 2 1 2, which was the second block of file 6
+        RollingSync y = new RollingSync();
+        Told.put(y, 0, 6, 9);
+        Told.put(y, 1, 6, 5, 5, 5, 2, 1, 2);
+        Told.put(y, 0, 7, 2, 1, 2);
+        Told.put(y, 1, 7, 1, 3, 1);
+        y.begin(0, 3, 8, 0);
+        check.goesOn("nor are they found", y, ASKED + "2467" + "2467");
+        check.states("a FALSE one", y, 5, 2, 8, 0, 10, 1, 11, 1);
+    }
+
+    private static void aCutRunIsForgotten() {
+        check.sentence("A RUN begins: NODE 1 alone waits, no file is TO DO, RULE 2 told none");
+        for (int file = 0; file < 8; file++) {
+            RollingSync x = new RollingSync();
+            Told.put(x, 1, file, 1, 2);
+            x.begin(0, 1, 1, 2);
+            x.step(ASKED_STEPS);
+            check.states("TO DO", x, 4, 1);
+            x.cut();
+            x.begin(0, 1, 1, 2);
+            check.states("no file is TO DO", x, 4, 0, 15, 1);
+            x.same(0, file);
+            check.goesOn("alike by now", x, "01");
+        }
+        // behind GONE of file 7 a RUN is OVER, so that it can't be CUT there
+        for (int file = 0; file < 7; file++) {
+            RollingSync x = new RollingSync();
+            Told.put(x, 1, file, 1, 2);
+            Told.put(x, 1, 7, 1);
+            x.begin(0, 1, 1, 2);
+            for (int i = 0; i < 40 && x.state(14) != 3; i++) {
+                x.step(1);
+            }
+            check.states("the other is TO DO", x, 0, 1, 4, 1, 14, 3);
+            x.cut();
+            x.same(0, file);
+            x.same(0, 7);
+            x.begin(0, 1, 1, 2);
+            check.goesOn("alike by now", x, "01");
+            check.due("what the CUT one told is there", x.size(1, file), 2);
+        }
     }
 
     private static void sumsAreTheLatest() {
