@@ -621,6 +621,7 @@ public final class RollingSync {
                 return;
             }
             int next = leastToDo();
+            // a file that is TO DO behind its own ANSWER has a further TRY, which keeps the new k
             if (next != file) {
                 file = next;
                 k = firstK;
