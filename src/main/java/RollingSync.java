@@ -659,7 +659,7 @@ public final class RollingSync {
             built.addAll(bytes);
         }
 
-        /** The own file may have changed since the SUMS: what is left there of the block is taken. */
+        /** The own file may have changed since the SUMS: what is left of the block there is put. */
         void takeBlock(int number) {
             blocksCame++;
             Row own = side.existing(file);
